@@ -35,13 +35,15 @@ public final class GalleryWatch {
     private final Proof proof;
 
     public GalleryWatch() {
-        now = new Room();
+        Room first = new Room();
+        View looks = new View(first);
+        now = first;
         draft = new Room();
         past = new Past();
-        view = new View(now);
-        choice = new Choice(view);
-        shade = new Shade(view);
-        proof = new Proof(view);
+        view = looks;
+        choice = new Choice(looks);
+        shade = new Shade(looks);
+        proof = new Proof(looks);
     }
 
     // ---- the room
@@ -1084,7 +1086,7 @@ public final class GalleryWatch {
         }
 
         int firstWrongRow() {
-            for (int row = 0; hasRow(row); row++) {
+            for (int row = 0; row < rows && row < MAX_ROWS; row++) {
                 if (!isRight(row)) {
                     return row;
                 }

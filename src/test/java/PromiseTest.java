@@ -298,6 +298,9 @@ public final class PromiseTest {
         is(told(-9, -9), 21);
         is(told(9, 9), 399);
         is(x.aim(0, 21, 399), BAD);
+        is(x.aim(0, 21, 21), 0);
+        is(x.about(0, 2), 21);
+        is(x.undo(), 4);
         is(x.aim(0, 399, 399), 0);
         is(x.about(0, 2), 399);
         is(x.about(0, 3), 399);
@@ -657,6 +660,18 @@ public final class PromiseTest {
         for (int cell = 1; cell < 10; cell += 2) walls(y, cell);
         stools(y, 8, 6, 4, 2, 0);
         is(y.fewest(), 5);
+        // Cells of all parts of the room, in pairs: none may be taken for another one.
+        int[] apart = {0, 35, 63, 64, 99};
+        for (int one : apart) {
+            for (int other : apart) {
+                GalleryWatch w = of(10, 10);
+                w.wall(0, 99, 1);
+                w.wall(one, one, 0);
+                w.wall(other, other, 0);
+                is(w.post(one, SLIT), 0);
+                is(w.fewest(), one == other || one == 63 && other == 64 ? 1 : NONE);
+            }
+        }
         GalleryWatch z = cups();
         is(z.fewest(), 14);
         is(z.choose(), (1 << 14) - 1);
@@ -993,6 +1008,10 @@ public final class PromiseTest {
         is(x.count(MAX), BAD);
         GalleryWatch y = of(3, 8);
         is(y.count(6), 3);
+        is(y.count(5), 24);
+        stools(y, 0);
+        is(y.count(5), 0);
+        is(y.undo(), 0);
         is(y.count(5), 24);
     }
 
