@@ -1,4 +1,4 @@
-/** Each promise of the document with answers worked out by hand. */
+/** Each promise of the document with answers worked out by hand (but for treeSizes). */
 public final class PromiseTest {
     private static final int BAD = -2000000001, NO = -2000000002, FULL = -2000000003, NONE = -2000000005;
     private static final int MIN = Integer.MIN_VALUE, MAX = Integer.MAX_VALUE;
