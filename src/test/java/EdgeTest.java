@@ -7,15 +7,18 @@ import java.util.stream.Stream;
 
 /** The edges that the document names, sentence by sentence, as src/test/edges tells them. */
 public final class EdgeTest {
+    /** All runs together take a second or two: what takes so long will not end. */
+    private static final long MOST_MILLISECONDS = 120_000;
+
     private final EdgeDoc doc;
     private final boolean[] met;
     private final List<String> faults = new ArrayList<>();
     private int sentences;
     private int answers;
-    private int promise;
-    private String sentence;
+    private volatile int promise;
+    private volatile String sentence;
     private int runs;
-    private String remark;
+    private volatile String remark;
     private EdgeRun run;
 
     private EdgeTest(EdgeDoc doc) {
@@ -29,11 +32,27 @@ public final class EdgeTest {
         try (Stream<Path> found = Files.list(Path.of("src/test/edges"))) {
             files = found.filter(f -> f.toString().endsWith(".txt")).sorted().toList();
         }
+        test.watch();
         for (Path file : files) test.read(file);
         test.lookForGaps();
         for (String fault : test.faults) System.out.println(fault);
         System.out.println(test.sentences + " sentences, " + test.answers + " answers, " + test.faults.size() + " faults");
         if (!test.faults.isEmpty()) System.exit(1);
+    }
+
+    /** A call that never ends is a fault, too, and must not keep the tests from ending. */
+    private void watch() {
+        Thread watch = new Thread(() -> {
+            try {
+                Thread.sleep(MOST_MILLISECONDS);
+            } catch (InterruptedException e) {
+                return;
+            }
+            System.out.println("promise " + promise + ", \"" + sentence + "\", " + remark + ": a call does not end");
+            Runtime.getRuntime().halt(1);
+        });
+        watch.setDaemon(true);
+        watch.start();
     }
 
     private void read(Path file) throws IOException {
