@@ -7,7 +7,9 @@ import java.nio.file.Path;
 import java.util.ArrayList;
 import java.util.Arrays;
 import java.util.List;
+import java.util.Map;
 import java.util.Set;
+import java.util.TreeMap;
 import java.util.TreeSet;
 import java.util.regex.Matcher;
 import java.util.regex.Pattern;
@@ -20,9 +22,11 @@ public final class LanguageTest {
     private static int wrong = 0;
 
     public static void main(String[] args) throws Exception {
+        String source = Files.readString(Path.of("src/main/java/GalleryWatch.java"));
         face();
+        order(Files.readString(Path.of("../shared/DOC.md")), source);
         classes();
-        text(bare(Files.readString(Path.of("src/main/java/GalleryWatch.java"))));
+        text(bare(source));
         System.out.println(wrong == 0 ? "the rules are kept" : wrong + " rules are not kept");
         if (wrong != 0) System.exit(1);
     }
@@ -58,6 +62,23 @@ public final class LanguageTest {
             constants += f.getName() + "=" + f.getInt(null) + " ";
         }
         rule(constants.equals("BAD=-2000000001 NO=-2000000002 FULL=-2000000003 NONE=-2000000005 "), constants);
+    }
+
+    /** The document's face, with the headings that it puts ahead of some calls, line by line. */
+    private static void order(String doc, String source) {
+        Map<String, String> headings = new TreeMap<>();
+        Matcher said = Pattern.compile("(?m)^Ahead of the calls `(\\w+)`.* says: (---- .*)\\.$").matcher(doc);
+        while (said.find()) headings.put(said.group(1), said.group(2));
+        List<String> due = new ArrayList<>();
+        Matcher lines = Pattern.compile("(?m)^ {4}public .*?(\\w*)(\\(.*\\))?;$").matcher(doc);
+        while (lines.find()) {
+            if (headings.containsKey(lines.group(1))) due.add("// " + headings.get(lines.group(1)));
+            due.add(lines.group().trim().replace(");", ") {"));
+        }
+        List<String> are = source.lines().map(String::trim)
+            .filter(line -> line.startsWith("public ") && !line.contains(" class ") || line.startsWith("// ----")).toList();
+        rule(headings.size() == 6 && due.size() == 39, "the document's face was found");
+        rule(due.equals(are), "the face is " + due + ", not " + are);
     }
 
     private static void classes() {
